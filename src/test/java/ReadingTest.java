@@ -10,6 +10,7 @@ public final class ReadingTest {
         seventhOnTheStack();
         seventeenthLine();
         aFaultLeavesTheLines();
+        eachReadingBeginsAnew();
         check.end();
     }
 
@@ -154,5 +155,18 @@ public final class ReadingTest {
         check.noIndex("no second line", () -> x.line(1, 0));
         check.equal("another fault", Check.read(x, "5;5"), -4);
         check.equal("the cents of the last good text", x.cents(), 900);
+    }
+
+    private static void eachReadingBeginsAnew() {
+        PriceLines x = new PriceLines();
+        check.equal("two on the stack", Check.read(x, "1 2"), -4);
+        check.equal("one END is enough", Check.read(x, "7;"), 1);
+        check.equal("five digits", Check.read(x, "12345"), -6);
+        check.equal("a digit alone", Check.read(x, "6;"), 1);
+        check.equal("its cents", x.cents(), 600);
+        check.equal("three lines", Check.read(x, "1;2;3;"), 3);
+        check.equal("three more", Check.read(x, "4;5;6;"), 3);
+        check.equal("one line", Check.read(x, "1 a+;"), 1);
+        check.line("places count from its own first sign", x, 0, Check.isOpen(1, 1));
     }
 }
