@@ -76,12 +76,12 @@ final class Check {
         refusesKeeping(what, IllegalStateException.class, scene, call);
     }
 
-    /** The call throws, and its object then answers all that an object without that call answers. */
+    /** "A call that throws changes nothing": its object then answers all that one without that call answers. */
     private void refusesKeeping(String what, Class<? extends RuntimeException> due, Supplier<PriceLines> scene,
             Consumer<PriceLines> call) {
         PriceLines called = scene.get();
         refuses(what, due, () -> call.accept(called));
-        same(what + " changed what it should not:", Scene.look(called), Scene.look(scene.get()));
+        same(what + " throws, but \"A call that throws changes nothing\":", Scene.look(called), Scene.look(scene.get()));
     }
 
     /** Both looks have the same answers. */

@@ -88,6 +88,14 @@ public final class NumbersBoundaryTest {
         cents("1;".repeat(16), 1600);
         cents("50%10;", 1000);
         cents("10;50%", 1500);
+        PriceLines fewer = Check.having("1;2;4;".repeat(5) + "a;");
+        String[] texts = {"8;", "16;32;", "8;", "16;32;64;", "8;"};
+        int[] due = {800, 4800, 800, 11200, 800};
+        for (int k = 0; k < texts.length; k++) {
+            Check.read(fewer, texts[k]);
+            check.equal("no line is of an earlier text: " + texts[k], fewer.cents(), due[k]);
+            check.equal("none of these is OPEN: " + texts[k], fewer.run(), 0);
+        }
     }
 
     private static void centsHalvesUp() {
@@ -139,6 +147,7 @@ public final class NumbersBoundaryTest {
         check.noIndex("line(1, 0) of 1", () -> most.line(1, 0));
         Check.read(most, "7;8;");
         check.line("of 2", most, 1, Check.adds(8, 1));
+        check.noIndex("line(2, 0) of 2", () -> most.line(2, 0));
     }
 
     private static void partsOfALine() {
@@ -149,7 +158,8 @@ public final class NumbersBoundaryTest {
             check.noIndexKeeping("line(2, " + part + ")", Scene::busy, x -> x.line(2, part));
             check.noIndexKeeping("line(3, " + part + ")", Scene::busy, x -> x.line(3, part));
         }
-        check.says(8, "above (part = 0), below (1)", "its reason, 0 if it is not OPEN (2), the place of the sign (3; NONE");
+        check.says(8, "above (part = 0), below (1)",
+            "its reason, 0 if it is not OPEN (2), the place of the sign (3; NONE");
         PriceLines x = Check.having("0 7 2/-;");
         check.equal("above", x.line(0, 0), -7);
         check.equal("below", x.line(0, 1), 2);
